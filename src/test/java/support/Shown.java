@@ -1,6 +1,7 @@
-/** All that the methods of a plant show of it without changing it. */
+/** All that the methods of a plant show of it. */
 final class Shown {
     private static final int MOST_OF_A_KIND = 40;
+    private static final int MOST_DEPOTS = 4;
 
     private interface Part {
         Object of(int index);
@@ -9,12 +10,13 @@ final class Shown {
     private Shown() {
     }
 
+    /** What it shows without being changed: at most some 170 calls. */
     static String by(TankPlant plant) {
         StringBuilder text = new StringBuilder();
-        text.append("time ").append(plant.time());
+        text.append("next ").append(plant.nextChange(60));
+        text.append(" time ").append(plant.time());
         text.append(" balance ").append(plant.balance());
         text.append(" changes ").append(plant.changeCount());
-        text.append(" next ").append(plant.nextChange(60));
         text.append(" digest ").append(plant.digest());
         list(text, " levels", plant::level);
         list(text, " sums", plant::levelSum);
@@ -26,6 +28,42 @@ final class Shown {
         list(text, " times", plant::changeTime);
         list(text, " switches", plant::changeSwitch);
         return text.toString();
+    }
+
+    /**
+     * What it shows, and how it goes on: the numbers of the next parts, some ticks, and its
+     * depots. At most some 300 calls, and the plant is used up behind them.
+     */
+    static String onwards(TankPlant plant) {
+        StringBuilder text = new StringBuilder(by(plant));
+        text.append("; next parts");
+        attempt(text, () -> plant.addTank(9, 5, 1));
+        attempt(text, () -> plant.addSwitch(0, 0, 1));
+        attempt(text, () -> plant.addPump(-1, 0, 1, 1, -1, false));
+        attempt(text, () -> plant.run(9));
+        briefly(text, plant);
+        for (int i = 0; i <= MOST_DEPOTS; i++) {
+            attempt(text, () -> plant.restore());
+            briefly(text, plant);
+        }
+        return text.toString();
+    }
+
+    private static void briefly(StringBuilder text, TankPlant plant) {
+        text.append("; digest ").append(plant.digest());
+        text.append(" balance ").append(plant.balance());
+        text.append(" changes ").append(plant.changeCount());
+        list(text, " sums", plant::levelSum);
+        attempt(text, () -> plant.changeTime(0));
+        attempt(text, () -> plant.changeSwitch(0));
+    }
+
+    private static void attempt(StringBuilder text, Due.Call call) {
+        try {
+            text.append(' ').append(call.answer());
+        } catch (RuntimeException e) {
+            text.append(' ').append(e.getClass().getSimpleName());
+        }
     }
 
     private static void list(StringBuilder text, String name, Part part) {
