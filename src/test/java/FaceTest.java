@@ -1,13 +1,22 @@
+import java.io.IOException;
 import java.lang.reflect.Constructor;
 import java.lang.reflect.Field;
 import java.lang.reflect.Member;
 import java.lang.reflect.Method;
 import java.lang.reflect.Modifier;
+import java.nio.charset.StandardCharsets;
+import java.nio.file.Files;
+import java.nio.file.Paths;
 import java.util.Arrays;
+import java.util.List;
 import java.util.Set;
 import java.util.TreeSet;
+import java.util.stream.Collectors;
 
-/** The class has the document's face and no other, and keeps to what LANGUAGE.md says of members. */
+/**
+ * The class has the document's face and no other, and keeps to what LANGUAGE.md says of members.
+ * It is run from the root, with the document in ../shared.
+ */
 public final class FaceTest {
     private static final String I = "IndexOutOfBoundsException";
     private static final String A = "IllegalArgumentException";
@@ -41,7 +50,7 @@ public final class FaceTest {
 
     private static final Due due = new Due();
 
-    public static void main(String[] args) {
+    public static void main(String[] args) throws IOException {
         Class<?> face = TankPlant.class;
         due.is("the class", "public final", () -> Modifier.toString(face.getModifiers()));
         due.is("its package", "", () -> face.getPackageName());
@@ -58,7 +67,26 @@ public final class FaceTest {
             due.holds("class " + inside + " is not open", !Modifier.isPublic(modifiers) && !Modifier.isProtected(modifiers));
             members(inside, publicNames);
         }
+        textOfTheFace();
         due.end();
+    }
+
+    /** Each signature stands in the source as in the document, the names of its parameters too. */
+    private static void textOfTheFace() throws IOException {
+        String document = read("../shared/DOC.md");
+        String face = document.substring(document.indexOf("## The public face"), document.indexOf("## Description"));
+        List<String> signatures = face.lines().map(line -> line.trim())
+                .filter(line -> line.startsWith("public ") && line.endsWith(";")).collect(Collectors.toList());
+        String source = read("src/main/java/TankPlant.java").replaceAll("\\s+", " ");
+        for (String signature : signatures) {
+            due.holds(signature, source.contains(" " + signature.replace(";", " {")));
+        }
+        due.is("the signatures in the document", 1 + FACE.length, () -> signatures.size());
+        due.is("what is public, with the class", 1 + signatures.size(), () -> source.split("public ", -1).length - 1);
+    }
+
+    private static String read(String file) throws IOException {
+        return Files.readString(Paths.get(file), StandardCharsets.UTF_8);
     }
 
     private static Set<String> methods(Class<?> face) {
