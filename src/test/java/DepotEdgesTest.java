@@ -51,6 +51,17 @@ public final class DepotEdgesTest {
     private static void noDepot() {
         due.refuses("24 never saved", Due.STATE, Plants::empty, x -> x.restore());
         due.refuses("24 never saved", Due.STATE, Plants::swinging, x -> x.restore());
+        due.refuses("24 never saved, behind some ticks", Due.STATE, () -> {
+            TankPlant x = Plants.swinging();
+            x.run(33);
+            return x;
+        }, x -> x.restore());
+        due.refuses("24 one undone, and ticks behind it", Due.STATE, () -> {
+            TankPlant x = Plants.small();
+            x.restore();
+            x.run(9);
+            return x;
+        }, x -> x.restore());
         for (int i = 1; i <= 4; i++) {
             int depots = i;
             due.refuses("24 all " + depots + " undone", Due.STATE, () -> {

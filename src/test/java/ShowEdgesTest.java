@@ -1,3 +1,6 @@
+import java.math.BigDecimal;
+import java.math.MathContext;
+
 /** The edges of promises 12 to 19: which numbers are refused, and the greatest and least answers. */
 public final class ShowEdgesTest {
     private static final int GREATEST = 1000000000;
@@ -9,6 +12,7 @@ public final class ShowEdgesTest {
         pumpsThatThereAre();
         meansAtTimeZero();
         meansBehindTicks();
+        meansToTheNearest();
         meansOfTheGreatest();
         sumsOfTheGreatest();
         balances();
@@ -84,6 +88,25 @@ public final class ShowEdgesTest {
         due.is("14 a late tank: no sum yet, and the time is not 0", 0.0, () -> late.meanLevel(0));
         late.run(1);
         due.is("14 a late tank: by the whole time", 2.5, () -> late.meanLevel(0));
+    }
+
+    /** "rounded to the nearest double": once, and neither up nor down alone. */
+    private static void meansToTheNearest() {
+        TankPlant low = of(10, 0, 0);
+        TankPlant high = of(GREATEST, 0, 0);
+        for (int i = 1; i <= 90; i++) {
+            meanBehind(low, i % 4, 1 + i % 13);
+            meanBehind(high, i * 7919 % 1000 * 1000003 % GREATEST, i % 4 == 0 ? 4999 : i);
+        }
+    }
+
+    private static void meanBehind(TankPlant x, int level, int ticks) {
+        x.setLevel(0, level);
+        x.run(ticks);
+        BigDecimal sum = BigDecimal.valueOf(x.levelSum(0));
+        BigDecimal time = BigDecimal.valueOf(x.time());
+        double nearest = sum.divide(time, new MathContext(60)).doubleValue();
+        due.is("14 of " + sum + " in " + time, nearest, () -> x.meanLevel(0));
     }
 
     private static void meansOfTheGreatest() {

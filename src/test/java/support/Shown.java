@@ -31,22 +31,39 @@ final class Shown {
     }
 
     /**
-     * What it shows, and how it goes on: the numbers of the next parts, some ticks, and its
-     * depots. At most some 300 calls, and the plant is used up behind them.
+     * What it shows, and how it goes on: some ticks, some by single steps of each level, the
+     * numbers of the next parts, and its depots. At most some 310 calls, and the plant is used up
+     * behind them.
      */
     static String onwards(TankPlant plant) {
         StringBuilder text = new StringBuilder(by(plant));
+        text.append("; ticks");
+        attempt(text, () -> plant.run(9));
+        briefly(text, plant);
+        bySingleSteps(text, plant);
         text.append("; next parts");
         attempt(text, () -> plant.addTank(9, 5, 1));
         attempt(text, () -> plant.addSwitch(0, 0, 1));
-        attempt(text, () -> plant.addPump(-1, 0, 1, 1, -1, false));
-        attempt(text, () -> plant.run(9));
+        attempt(text, () -> plant.addPump(-1, 0, 1000000, 1, -1, false));
+        attempt(text, () -> plant.addPump(-1, 1, 1000000, 1, -1, false));
+        attempt(text, () -> plant.run(200));
         briefly(text, plant);
         for (int i = 0; i <= MOST_DEPOTS; i++) {
             attempt(text, () -> plant.restore());
             briefly(text, plant);
         }
         return text.toString();
+    }
+
+    /** Down and then up by 1 in each tick, so that no mark is stepped over. */
+    private static void bySingleSteps(StringBuilder text, TankPlant plant) {
+        list(text, "; rates", i -> plant.setRate(i, 1));
+        for (int leak = 1; leak >= 0; leak--) {
+            int next = leak;
+            list(text, "; leaks", i -> plant.setLeak(i, next));
+            attempt(text, () -> plant.run(200));
+            attempt(text, () -> plant.digest());
+        }
     }
 
     private static void briefly(StringBuilder text, TankPlant plant) {
